@@ -630,17 +630,25 @@ public final class ClockPost {
         boolean readInto(House house) {
             place = 0;
             house.clear();
-            boolean read = readSign('c') && readNumber(1, MOST_GAP) && keepGap(house) && readSign(';');
-            // one time more than there is room, for the LETTER that is too many
-            for (int i = 0; i <= MOST_LETTERS && read && place < length; i++) {
-                read = readLetter(house);
-            }
-            house.stands = read;
-            return read;
+            house.stands = readLaw(house) && readLetters(house);
+            return house.stands;
         }
 
-        private boolean keepGap(House house) {
+        private boolean readLaw(House house) {
+            if (!readSign('c') || !readNumber(1, MOST_GAP)) {
+                return false;
+            }
             house.gap = number;
+            return readSign(';');
+        }
+
+        private boolean readLetters(House house) {
+            // one time more than there is room, for the LETTER that is too many
+            for (int i = 0; i <= MOST_LETTERS && place < length; i++) {
+                if (!readLetter(house)) {
+                    return false;
+                }
+            }
             return true;
         }
 
@@ -656,7 +664,12 @@ public final class ClockPost {
             Letter letter = house.letters[house.letterCount];
             letter.kind = kind;
             letter.age = 0;
-            return readFigures(letter) && addLetter(house);
+            if (!readFigures(letter)) {
+                return false;
+            }
+            house.behindBits |= 1 << house.letterCount;
+            house.letterCount++;
+            return true;
         }
 
         private boolean readFigures(Letter letter) {
@@ -673,12 +686,6 @@ public final class ClockPost {
             }
             letter.holds = number;
             return readSign(';');
-        }
-
-        private static boolean addLetter(House house) {
-            house.behindBits |= 1 << house.letterCount;
-            house.letterCount++;
-            return true;
         }
 
         private static int kindToldBy(int sort) {
@@ -720,12 +727,12 @@ public final class ClockPost {
         }
 
         private static boolean isFigure(int sign) {
-            return isWithin(sign, '0', '9');
+            return sign >= '0' && sign <= '9';
         }
 
         /** A byte of the tape; -1 at its end. */
         private int byteAt(int i) {
-            return isWithin(i, 0, Math.min(length, bytes.length) - 1) ? bytes[i] : -1;
+            return i >= 0 && i < length && i < bytes.length ? bytes[i] : -1;
         }
 
         private boolean fail(int number) {

@@ -11,6 +11,7 @@ public final class ForetoldTest {
         testDaysToCome(check);
         testFalls(check);
         testOrder(check);
+        testOrderOfSix(check);
         testOrderAfterFalls(check);
         testHold(check);
         testEase(check);
@@ -19,6 +20,7 @@ public final class ForetoldTest {
         testStealth(check);
         testLost(check);
         testDrawn(check);
+        testDrawnYears(check);
         testNothingChanges(check);
         check.end();
     }
@@ -147,6 +149,16 @@ public final class ForetoldTest {
         x.days(1);
         c.due("the stale one weighs nothing", row(x, 3), 1, 0);
         c.due("by nothing", x.order(3, -1), 0);
+    }
+
+    /** What is due was reckoned by a program of its own, all 720 rows one by one. */
+    private static void testOrderOfSix(Check c) {
+        ClockPost x = Check.house("c14;b3,4,6;d1,3,2;s5,2,9;n7,4,8;e2,1,5;d6,1,1;");
+        c.due("six", row(x, 63), 5, 3, 2, 1, 0, 4);
+        c.due("by how much", x.order(63, -1), 68);
+        x = Check.house("c9;b3,4,6;d1,3,2;s5,2,9;n7,4,8;e2,1,5;d6,1,1;");
+        c.due("six, some of which fall", row(x, 63), 5, 2, 1, 4, 0, 3);
+        c.due("by less", x.order(63, -1), 32);
     }
 
     private static void testOrderAfterFalls(Check c) {
@@ -351,6 +363,27 @@ public final class ForetoldTest {
         c.due("no sorrow", x.drawn(60, 999999, 1), 0);
         x = Check.house("c1;b1,9,9;");
         c.due("one falls", x.drawn(1, 1, 1), 9);
+    }
+
+    private static void drawn(Check c, ClockPost x, int n, int seed, int sum, int sorrow) {
+        c.due("drawn " + n + ", " + seed, new int[] {x.drawn(n, seed, 0), x.drawn(n, seed, 1)}, sum, sorrow);
+    }
+
+    /** What is due was reckoned by a program of its own. */
+    private static void testDrawnYears(Check c) {
+        ClockPost x = Check.house("c14;b3,4,6;d1,3,2;s5,2,9;n7,4,8;e2,1,5;");
+        drawn(c, x, 20, 7, 607, 8);
+        drawn(c, x, 60, 9, 1413, 40);
+        x = Check.house("c9;b3,4,6;d1,3,2;s5,2,9;n7,4,8;e2,1,5;");
+        drawn(c, x, 2, 1, 37, 14);
+        drawn(c, x, 3, 1, 54, 14);
+        drawn(c, x, 10, 123456, 167, 11);
+        drawn(c, x, 60, 999999, 1660, 73);
+        drawn(c, x, 60, 1, 2234, 61);
+        x = Check.house("c1;b1,1,9;");
+        drawn(c, x, 1, 3, 0, 4);
+        drawn(c, x, 1, 5, 1, 0);
+        drawn(c, x, 5, 3, 6, 4);
     }
 
     private static int[] all(ClockPost x) {

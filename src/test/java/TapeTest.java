@@ -8,6 +8,7 @@ public final class TapeTest {
         testFeed(check);
         testHouses(check);
         testFaults(check);
+        testBytesReadBefore(check);
         testAllBytes(check);
         testFaultChangesNothing(check);
         testHouseInPlaceOfAnother(check);
@@ -124,6 +125,16 @@ public final class TapeTest {
         fault(c, "c1;b1,1,1;d1,1,1;s1,1,1;n1,1,1;e1,1,1;b1,0,1;b", 2, 41);
     }
 
+    private static void testBytesReadBefore(Check c) {
+        ClockPost x = new ClockPost();
+        c.due("a house", read(x, "c12;b1,2,3;"), 1);
+        c.due("its end is not there any more", read(x, "c1"), -1000102);
+        c.due("nor its law", read(x, ""), -1000100);
+        c.due("nor its letter", read(x, "c12;b1"), -1000106);
+        c.due("nor one", read(x, "c12;"), 0);
+        c.due("nobody is behind", x.count(3), 0);
+    }
+
     private static void testAllBytes(Check c) {
         for (int b = 0; b < 256; b++) {
             ClockPost x = new ClockPost();
@@ -160,6 +171,7 @@ public final class TapeTest {
         x.image(1);
         x.days(3);
         c.due("sorrow", x.count(8), 9);
+        c.due("what was foretold of it", x.burden(60), 64);
         c.due("another house", read(x, "c9;s5,5,5;"), 1);
         int[] counts = new int[10];
         for (int what = 0; what < 10; what++) {
