@@ -1,27 +1,55 @@
+import java.util.Arrays;
+import java.util.TreeSet;
+
 /** Compares answers with those that are due, and ends a test with exit code 1 if one was not. */
 final class Check {
+    private final TreeSet<Integer> promises = new TreeSet<>();
+    private String heading = "";
     private int asked;
     private int wrong;
+
+    /** What is compared from now on holds these words of the document; they are looked up there. */
+    void holds(int promise, String words) {
+        heading = "promise " + promise + ", \"" + words + "\": ";
+        promises.add(promise);
+        asked++;
+        if (!Document.says(promise, words)) {
+            tell("the document does not say so");
+        }
+    }
 
     void due(String call, long got, long want) {
         asked++;
         if (got != want) {
-            wrong++;
-            System.out.println(call + " answered " + got + ", due is " + want);
+            tell(call + " answered " + got + ", due is " + want);
         }
     }
 
     void due(String call, int[] got, int... want) {
         asked++;
-        if (!java.util.Arrays.equals(got, want)) {
-            wrong++;
-            System.out.println(call + " answered " + java.util.Arrays.toString(got)
-                    + ", due is " + java.util.Arrays.toString(want));
+        if (!Arrays.equals(got, want)) {
+            tell(call + " answered " + Arrays.toString(got) + ", due is " + Arrays.toString(want));
         }
+    }
+
+    private void tell(String what) {
+        wrong++;
+        System.out.println(heading + what);
     }
 
     boolean stillRight() {
         return wrong == 0;
+    }
+
+    /** Ends a test that ought to have held words of each of these promises. */
+    void end(int... due) {
+        for (int promise : due) {
+            if (!promises.contains(promise)) {
+                heading = "";
+                tell("promise " + promise + " was not held by any words");
+            }
+        }
+        end();
     }
 
     void end() {
@@ -38,11 +66,16 @@ final class Check {
         }
     }
 
+    /** Feeds a text, and reads the tape. */
+    static int read(ClockPost post, String text) {
+        feed(post, text);
+        return post.house();
+    }
+
     /** A new object with a HOUSE. */
     static ClockPost house(String text) {
         ClockPost post = new ClockPost();
-        feed(post, text);
-        if (post.house() < 0) {
+        if (read(post, text) < 0) {
             throw new IllegalArgumentException(text);
         }
         return post;
@@ -54,6 +87,23 @@ final class Check {
         for (int i = 0; i < items.length; i++) {
             post.set(row, i, items[i]);
         }
+    }
+
+    /** Lets DAYS go by, as many as there should. */
+    static void pass(ClockPost post, int days) {
+        for (int left = days; left > 0; left -= 24) {
+            post.days(Math.min(24, left));
+        }
+    }
+
+    /** n ITEMS from 0 on, of 0 to 9 each (-1: any other), of an object whose only LETTER is a note that is BEHIND. */
+    static int[] items(ClockPost post, int row, int n) {
+        int[] items = new int[n];
+        for (int i = 0; i < n; i++) {
+            int fears = post.fits(0, row, i, 1, 0);
+            items[i] = fears > 0 ? Integer.numberOfTrailingZeros(fears) : -1;
+        }
+        return items;
     }
 
     /** THE TRACE up to its first NONE. */
@@ -76,5 +126,14 @@ final class Check {
             told[what] = post.letter(letter, what);
         }
         return told;
+    }
+
+    /** What count() tells. */
+    static int[] counts(ClockPost post) {
+        int[] counts = new int[10];
+        for (int what = 0; what < counts.length; what++) {
+            counts[what] = post.count(what);
+        }
+        return counts;
     }
 }
