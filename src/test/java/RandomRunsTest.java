@@ -27,10 +27,16 @@ public final class RandomRunsTest {
 
     private void run(int run) {
         boolean wild = run % 4 == 3;
+        boolean old = run % 4 == 2;
+        if (old) {
+            growOld();
+        }
         while (calls < CALLS && check.stillRight()) {
             int call = random.nextInt(40);
-            if (call >= 36) {
+            if (call >= 36 && !old) {
                 readHouse(wild);
+            } else if (call >= 36) {
+                due("days", real.days(24), plain.days(24));
             } else if (call == 35) {
                 layBurdens();
             } else if (call == 34) {
@@ -38,6 +44,17 @@ public final class RandomRunsTest {
             } else {
                 compare("run " + run, call, wild);
             }
+        }
+    }
+
+    /** A HOUSE that is near the last DAY, the most SUM, or the most AGE, and is not read anew. */
+    private void growOld() {
+        String text = text(1 + random.nextInt(6));
+        Check.feed(real, text);
+        text.chars().forEach(plain::feed);
+        due("house of " + text, real.house(), plain.house());
+        for (int left = random.nextInt(42); left > 0; left--) {
+            due("days", real.days(24), plain.days(24));
         }
     }
 
