@@ -12,6 +12,8 @@ public final class ClockPost {
     private static final int LETTER = 0, BILL = 1, DUN = 2, STALE = 3, NOTE = 4, BLACK = 5;
     private static final int STALE_AGE = 9, MOST_AGE = 99, MOST_TOLD = 9999;
     private static final int MOST_DAYS_AT_ONCE = 24, LAST_DAY = 999, ACTS_KEPT = 24, IMAGE_COUNT = 2;
+    /** More than SUM can grow in as many DAYS as there are LETTERS. */
+    private static final int NO_ORDER_YET = 1000000;
     private static final int FARTHEST = 60, HEAVIEST = 300, MOST_COMPARED = 16, MOST_TRIED_AGE = 20;
     private static final int AS_IT_IS = 64, TENTHS = 10;
     private static final int DRAW_TIMES = 16807, DRAW_REST = 2147483647, MOST_SEED = 999999;
@@ -735,8 +737,8 @@ public final class ClockPost {
             return i >= 0 && i < length && i < bytes.length ? bytes[i] : -1;
         }
 
-        private boolean fail(int number) {
-            latestFault = number;
+        private boolean fail(int fault) {
+            latestFault = fault;
             return false;
         }
     }
@@ -961,7 +963,7 @@ public final class ClockPost {
 
         void search(House house, int letters) {
             stages[0].become(house);
-            leastGrowth = Integer.MAX_VALUE;
+            leastGrowth = NO_ORDER_YET;
             extend(this, letters, 0, 0);
         }
 
